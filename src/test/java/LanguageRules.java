@@ -1,0 +1,135 @@
+import java.lang.reflect.Constructor;
+import java.lang.reflect.Field;
+import java.lang.reflect.Member;
+import java.lang.reflect.Method;
+import java.lang.reflect.Modifier;
+import java.io.IOException;
+import java.nio.file.Files;
+import java.nio.file.Path;
+import java.util.ArrayList;
+import java.util.Arrays;
+import java.util.List;
+import java.util.Set;
+import java.util.TreeSet;
+import java.util.regex.Matcher;
+import java.util.regex.Pattern;
+import java.util.stream.Collectors;
+
+/** The rules of LANGUAGE.md, and the document's face, as far as a look at the file and the class tells. */
+public final class LanguageRules {
+    private static final String FACE = "boolean areSame(int), boolean correspond(int,int,boolean), "
+            + "boolean isIdle(int), boolean isInductive(int), boolean isInvariant(int), boolean isSound(), "
+            + "char prove(int,int,boolean,int), double meanSeen(), float mergedShare(), int allDiagrams(), "
+            + "int ands(), int candidates(int), int cell(int,int,int), int cellClasses(), int close(), "
+            + "int coefficient(int,int,int,int), int constrain(int), int cutAt(int,int,int,int), "
+            + "int cuts(int,int), int data(int,int), int diagram(int,int), int difference(), "
+            + "int gate(int,char,int,int), int input(), int lines(), int literal(int), int merged(int), "
+            + "int normal(int,int), int order(int,int), int output(int,int), int patch(int,int,int,int,int), "
+            + "int pattern(int), int patterns(), int pin(int,boolean), int placeOf(int), "
+            + "int proof(int,int,boolean), int reached(), int run(int,int,int), int seen(int), int sift(), "
+            + "int sweep(int), int table(int,int,int), int trace(int), int value(int,int), "
+            + "int witness(int,int,boolean), int word(int,int,int,int), long mergeProofs(), "
+            + "long signature(int)";
+
+    private static int wrong;
+
+    public static void main(String[] args) throws IOException {
+        String text = Files.readString(Path.of("src/main/java/Miterhouse.java"));
+        checkFace();
+        checkClasses();
+        checkText(text);
+        System.out.println(wrong == 0 ? "the rules of the language are kept" : wrong + " rules are broken");
+        if (wrong > 0) {
+            System.exit(1);
+        }
+    }
+
+    private static void must(boolean holds, String what) {
+        if (!holds) {
+            wrong++;
+            System.out.println(what);
+        }
+    }
+
+    private static void checkFace() {
+        List<String> rows = new ArrayList<>();
+        Set<String> open = new TreeSet<>();
+        for (Method m : Miterhouse.class.getDeclaredMethods()) {
+            if (Modifier.isPublic(m.getModifiers())) {
+                open.add(m.getName());
+                rows.add(m.getReturnType() + " " + m.getName() + "("
+                        + Arrays.stream(m.getParameterTypes()).map(Class::getName).collect(Collectors.joining(",")) + ")");
+            }
+        }
+        rows.sort(null);
+        must(String.join(", ", rows).equals(FACE), "rule 1: the face is " + String.join(", ", rows));
+        must(Modifier.isFinal(Miterhouse.class.getModifiers()), "rule 1: not final");
+        List<Member> members = new ArrayList<>(List.of(Miterhouse.class.getDeclaredFields()));
+        members.addAll(List.of(Miterhouse.class.getDeclaredMethods()));
+        for (Member m : members) {
+            boolean isFace = m instanceof Method && Modifier.isPublic(m.getModifiers());
+            must(isFace || Modifier.isPrivate(m.getModifiers()), "rule 1: " + m);
+        }
+        List<Class<?>> all = new ArrayList<>(List.of(Miterhouse.class.getDeclaredClasses()));
+        all.add(Miterhouse.class);
+        for (Class<?> c : all) {
+            for (Method m : c.getDeclaredMethods()) {
+                must(!Modifier.isPrivate(m.getModifiers()) || !open.contains(m.getName()), "rule 1: " + m);
+            }
+        }
+    }
+
+    private static void checkClasses() {
+        Class<?>[] inside = Miterhouse.class.getDeclaredClasses();
+        must(inside.length <= 12, "rule 11: classes " + inside.length);
+        for (Class<?> c : inside) {
+            must(Modifier.isStatic(c.getModifiers()) && Modifier.isFinal(c.getModifiers()), "rule 2: " + c);
+            long fields = Arrays.stream(c.getDeclaredFields()).filter(f -> !Modifier.isStatic(f.getModifiers())).count();
+            must(fields <= 20, "rule 11: fields of " + c + ": " + fields);
+            for (Field f : c.getDeclaredFields()) {
+                must(!Modifier.isStatic(f.getModifiers()) || Modifier.isFinal(f.getModifiers()), "rule 5: " + f);
+            }
+            for (Method m : c.getDeclaredMethods()) {
+                must(m.getParameterCount() <= 7, "rule 11: " + m);
+            }
+            for (Constructor<?> k : c.getDeclaredConstructors()) {
+                must(k.getParameterCount() <= 7, "rule 11: " + k);
+            }
+        }
+    }
+
+    private static void checkText(String text) {
+        String code = text.replaceAll("(?s)/\\*.*?\\*/", "").replaceAll("//[^\n]*", "").replaceAll("\"[^\"\n]*\"", "\"\"");
+        List<String> imports = code.lines().filter(l -> l.startsWith("import ")).toList();
+        must(List.of("import java.util.Arrays;", "import java.util.NoSuchElementException;").containsAll(imports),
+                "rule 4: " + imports);
+        for (String word : List.of("->", "::", "catch", "try {", "finally", "synchronized", "assert", "instanceof",
+                "System.out", "System.nano", "random", "Object ", "hashCode", "toString", "Exact(", "package ")) {
+            must(!Pattern.compile("(?<![A-Za-z])" + Pattern.quote(word)).matcher(code).find(), "not allowed: " + word);
+        }
+        Matcher calls = Pattern.compile("(?<![A-Za-z.])(Math|Long|Integer|Arrays|System)\\.(\\w+)").matcher(code);
+        Set<String> allowed = Set.of("min", "max", "bitCount", "fill", "copyOf", "arraycopy");
+        while (calls.find()) {
+            must(allowed.contains(calls.group(2)), "rule 4: " + calls.group());
+        }
+        must(text.chars().allMatch(c -> c < 128), "a sign beyond 127");
+        checkLengths(code);
+    }
+
+    private static void checkLengths(String code) {
+        int start = 0;
+        int number = 0;
+        String head = "";
+        for (String line : code.split("\n", -1)) {
+            number++;
+            if (line.matches("( {4}| {8})(?! )[^=;]*\\).*\\{")) {
+                start = number;
+                head = line.trim();
+            }
+            if (line.matches("( {4}| {8})}") && start > 0) {
+                must(number - start <= 60, "rule 11: long: " + head);
+                start = 0;
+            }
+        }
+    }
+}
