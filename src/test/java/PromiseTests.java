@@ -144,6 +144,10 @@ public final class PromiseTests {
         throwing(CANNOT, () -> c.cell(0, 0, 2));
         due(6, x.cell(1, 0, 5));
         throwing(FULL, () -> full.cell(0, 0, 0));
+        Miterhouse cellAtFirst = new Miterhouse();
+        due(0, cellAtFirst.cell(1, 0, 3));
+        throwing(CANNOT, () -> cellAtFirst.cell(1, 0, 3));
+        due(1, cellAtFirst.cell(0, 0, 3));
         throwing(CANNOT, () -> shut.cell(0, 0, 0));
         throwing(RANGE, () -> shut.cell(0, 0, 10));
 
@@ -808,6 +812,16 @@ public final class PromiseTests {
         y.constrain(0);
         due(1, y.patch(5, 2, -1, -1, -1));
         throwing(NONE, () -> y.patch(2, 0, -1, -1, -1));
+        // The net 1's cell may be the line 0; it has the name of the net 0's cell all the same.
+        Miterhouse early = new Miterhouse();
+        early.cell(1, 0, 4);
+        early.cell(0, 0, 4);
+        early.data(0, early.gate(1, 'v', 0, 0));
+        early.data(1, 1);
+        early.output(0, 1);
+        early.output(1, 0);
+        early.close();
+        due(2, early.patch(2, 0, -1, -1, -1));
         // A cell is patched by its value, its data stay; where nothing wants it, it has 0.
         Miterhouse z = withInputs(1);
         z.cell(0, 0, 4);

@@ -91,10 +91,16 @@ public final class RandomRuns {
         int size = random.nextInt(12);
         int mostInputs = size == 0 ? 6 : size < 3 ? 5 : 3;
         int mostCells = size == 0 ? 3 : size < 4 ? 0 : 2;
+        boolean isCellFirst = random.nextInt(3) == 0;
+        if (isCellFirst) {
+            addCells(mostCells);
+        }
         for (int i = random.nextInt(mostInputs + 1); i >= 0; i--) {
             call("input");
         }
-        addCells(mostCells);
+        if (!isCellFirst) {
+            addCells(mostCells);
+        }
         if (random.nextInt(3) == 0) {
             call("input");
         }
@@ -175,8 +181,12 @@ public final class RandomRuns {
         for (int name = 0; name < most; name++) {
             int first = random.nextInt(2);
             int kind = random.nextInt(8);
+            boolean isOtherFirst = random.nextBoolean();
+            int other = kind != 7 && isOtherFirst ? call("cell", 1, kind == 5 ? 1 - first : first, name) : -1;
             int one = kind == 6 ? -1 : call("cell", 0, first, name);
-            int other = kind == 7 ? -1 : call("cell", 1, kind == 5 ? 1 - first : first, kind == 4 ? 9 - name : name);
+            if (kind != 7 && !isOtherFirst) {
+                other = call("cell", 1, kind == 5 ? 1 - first : first, kind == 4 ? 9 - name : name);
+            }
             addCell(0, one);
             addCell(1, other);
             if (one >= 0 && other >= 0) {
