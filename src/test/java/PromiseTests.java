@@ -708,6 +708,16 @@ public final class PromiseTests {
         }
         due(true, y.areSame(2));
         due(false, y.areSame(6));
+        // Of x less 1, less 2, less 3 in a product only 0 tells, of x, x less 1, less 2 only 3; so in y.
+        int[][] told = {{-6, 11, -6, 1}, {0, 2, -3, 1}};
+        for (int k = 0; k < 4; k++) {
+            Miterhouse z = new Miterhouse();
+            for (int i = 0; i < 4; i++) {
+                z.coefficient(1, k < 2 ? i : 0, k < 2 ? 0 : i, told[k % 2][i]);
+            }
+            due(true, z.areSame(1));
+            due(false, z.areSame(2));
+        }
         promise = 34;
         due(12, x.word(0, 6, 2, 7));
         due(0, x.word(0, 6, -1, 0));
@@ -940,6 +950,29 @@ public final class PromiseTests {
         due(true, pipes(4, 0).isInductive(20));
         // After one step both are the same, yet there is a difference in the first one.
         due(false, pipes(1, 1).isInductive(1));
+        // Only steps whose inputs keep the constraint count.
+        Miterhouse gated = withInputs(2);
+        gated.cell(0, 0, 0);
+        gated.cell(1, 0, 0);
+        gated.data(2, gated.gate(0, 'a', 0, 1));
+        gated.data(3, 0);
+        closed(gated, 2, 3);
+        due(false, gated.isInductive(1));
+        promise = 40;
+        due(3, gated.reached());
+        promise = 41;
+        due(1, gated.difference());
+        promise = 42;
+        due(1, gated.trace(0));
+        gated.constrain(1);
+        promise = 43;
+        due(true, gated.isInductive(1));
+        due(false, gated.isInductive(0));
+        promise = 40;
+        due(2, gated.reached());
+        promise = 41;
+        due(-1, gated.difference());
+        promise = 43;
         throwing(RANGE, () -> x.isInductive(21));
         throwing(RANGE, () -> x.isInductive(-1));
         throwing(CANNOT, () -> withInputs(1).isInductive(0));
