@@ -251,9 +251,29 @@ final class ProofEdges extends Edges {
         due('d', Houses.pairs().prove(3, 4, false, 3));
         due('d', wide.prove(13, 12, false, 1));
         due('d', wide.prove(13, 0, true, 1));
+        deepDifferences();
         sentence("Promise 16: leaves behind the first difference are not needed");
         due('d', wide.prove(13, 13, true, 1));
         due('d', Houses.pairs().prove(6, 2, false, 1));
+    }
+
+    /** The 7th source of fourteen, and it where the first source is 0, or where not all first six are 1. */
+    private static void deepDifferences() {
+        Miterhouse x = Houses.wide();
+        int early = x.gate(0, 'a', 6, x.gate(0, 'v', 0, 0));
+        int all = x.gate(0, 'a', 0, 1);
+        for (int line = 2; line < 6; line++) {
+            all = x.gate(0, 'a', all, line);
+        }
+        int late = x.gate(0, 'a', 6, x.gate(0, 'v', all, 0));
+        Houses.closed(x);
+        sentence("Promise 16: as many leaves as stand in front of a difference, and one less");
+        due('u', x.prove(6, early, false, 64));
+        due('d', x.prove(6, early, false, 65));
+        due('u', x.prove(6, late, false, 126));
+        due('d', x.prove(late, 6, false, 127));
+        due(1 + 64, x.witness(6, early, false));
+        due(127, x.witness(6, late, false));
     }
 
     private static void proofs() {

@@ -88,6 +88,14 @@ public final class RandomRuns {
             goCounting();
             return;
         }
+        if (random.nextInt(20) == 0) {
+            goFull();
+            return;
+        }
+        if (random.nextInt(80) == 0) {
+            goProducts();
+            return;
+        }
         int size = random.nextInt(12);
         int mostInputs = size == 0 ? 6 : size < 3 ? 5 : 3;
         int mostCells = size == 0 ? 3 : size < 4 ? 0 : 2;
@@ -174,6 +182,96 @@ public final class RandomRuns {
             } else {
                 ask();
             }
+        }
+    }
+
+    /** All the lines that there can be, and as many sources, gates mostly standing on late lines. */
+    private void goFull() {
+        inputs = 1 + random.nextInt(6);
+        for (int i = 0; i < inputs; i++) {
+            call("input");
+            ofNet.get(0).add(i);
+            ofNet.get(1).add(i);
+        }
+        int most = random.nextInt(3) == 0 ? 0 : random.nextInt(5);
+        for (int k = 0; k < 2 * most; k++) {
+            addCell(k % 2, call("cell", k % 2, random.nextInt(2), k / 2));
+        }
+        sources = inputs + 2 * most;
+        String kinds = random.nextBoolean() ? "aoxnr" : "aoaoxbv";
+        while (house.lines() < 80) {
+            List<Integer> own = ofNet.get(random.nextInt(random.nextInt(4) == 0 ? 1 : 2));
+            int net = own == ofNet.get(0) ? 0 : 1;
+            int one = own.get(Math.max(0, own.size() - 1 - random.nextInt(8)));
+            newGate(net, kinds.charAt(random.nextInt(kinds.length())), one, any(own));
+        }
+        for (int cell : cells) {
+            call("data", cell, any(ofNet.get(ofNet.get(0).contains(cell) ? 0 : 1)));
+        }
+        for (int k = 0; k < 8; k++) {
+            List<Integer> own = ofNet.get(k % 2);
+            call("output", k % 2, own.get(own.size() - 1 - k / 2));
+        }
+        call("close");
+        for (int c = 0; c < 25; c++) {
+            askFull();
+        }
+        if (sources < 5) {
+            call("sweep", someBudget());
+            call("mergeProofs");
+            call("sift");
+        }
+        call("isSound");
+    }
+
+    private void askFull() {
+        int line = someLine();
+        switch (random.nextInt(16)) {
+            case 0 -> call("diagram", line, 9999);
+            case 1 -> call("allDiagrams");
+            case 2 -> call("order", random.nextInt(sources), random.nextInt(sources));
+            case 3 -> call("proof", line, someLine(), random.nextBoolean());
+            case 4 -> call("witness", line, someLine(), random.nextBoolean());
+            case 5 -> call("prove", line, someLine(), random.nextBoolean(), 1 + random.nextInt(1 << random.nextInt(14)));
+            case 6 -> call("seen", line);
+            case 7 -> call("literal", line);
+            case 8 -> call("pin", random.nextInt(240), random.nextBoolean());
+            case 9 -> call(random.nextBoolean() ? "reached" : "cellClasses");
+            case 10 -> call("trace", random.nextInt(3));
+            case 11 -> call("constrain", random.nextInt(inputs));
+            case 12 -> call("candidates", line);
+            case 13 -> call("pattern", someChoice());
+            default -> askCuts(line);
+        }
+    }
+
+    /** In each net the sum of products of sources in pairs, whose diagrams are large in most orders. */
+    private void goProducts() {
+        inputs = 6;
+        sources = 14;
+        for (int i = 0; i < 6; i++) {
+            call("input");
+        }
+        for (int k = 0; k < 8; k++) {
+            call("data", call("cell", k % 2, 0, k), k % 6);
+        }
+        for (int net = 0; net < 2; net++) {
+            List<Integer> own = new ArrayList<>(List.of(0, 1, 2, 3, 4, 5, 6 + net, 8 + net, 10 + net, 12 + net));
+            java.util.Collections.shuffle(own, random);
+            int sum = call("gate", net, 'a', own.get(0), own.get(5));
+            for (int k = 1; k < 5; k++) {
+                sum = call("gate", net, random.nextInt(4) == 0 ? 'o' : 'x', sum,
+                        call("gate", net, 'a', own.get(k), own.get(5 + k)));
+            }
+            call("output", net, sum);
+        }
+        call("close");
+        for (int c = 0; c < 4; c++) {
+            for (int moves = 0; moves < 10; moves++) {
+                call("order", random.nextInt(14), random.nextInt(14));
+            }
+            call("allDiagrams");
+            call("diagram", house.lines() - 1, 9999);
         }
     }
 
