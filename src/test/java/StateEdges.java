@@ -224,6 +224,14 @@ final class StateEdges extends Edges {
         due(false, Houses.small().isInvariant(6));
         sentence("Promise 44: it is 1 with the state that follows");
         due(false, Houses.small().isInvariant(2));
+        sentence("Promise 44: the state behind the first choice alone, or the last one alone, tells");
+        for (int first = 0; first < 2; first++) {
+            Miterhouse z = Houses.inputs(1);
+            z.cell(0, first, 0);
+            z.data(1, z.gate(0, 'v', 0, 0));
+            z.gate(0, first == 0 ? 'v' : 'b', 1, 0);
+            due(false, Houses.closed(z).isInvariant(3));
+        }
         sentence("Promise 44: just choices that keep constraints are asked");
         Miterhouse x = Houses.small();
         x.constrain(0);
