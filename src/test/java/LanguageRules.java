@@ -9,6 +9,8 @@ import java.nio.file.Path;
 import java.util.ArrayList;
 import java.util.Arrays;
 import java.util.List;
+import java.util.Map;
+import java.util.NoSuchElementException;
 import java.util.Set;
 import java.util.TreeSet;
 import java.util.regex.Matcher;
@@ -17,19 +19,29 @@ import java.util.stream.Collectors;
 
 /** The rules of LANGUAGE.md, and the document's face, as far as a look at the file and the class tells. */
 public final class LanguageRules {
-    private static final String FACE = "boolean areSame(int), boolean correspond(int,int,boolean), "
-            + "boolean isIdle(int), boolean isInductive(int), boolean isInvariant(int), boolean isSound(), "
-            + "char prove(int,int,boolean,int), double meanSeen(), float mergedShare(), int allDiagrams(), "
-            + "int ands(), int candidates(int), int cell(int,int,int), int cellClasses(), int close(), "
-            + "int coefficient(int,int,int,int), int constrain(int), int cutAt(int,int,int,int), "
-            + "int cuts(int,int), int data(int,int), int diagram(int,int), int difference(), "
-            + "int gate(int,char,int,int), int input(), int lines(), int literal(int), int merged(int), "
-            + "int normal(int,int), int order(int,int), int output(int,int), int patch(int,int,int,int,int), "
-            + "int pattern(int), int patterns(), int pin(int,boolean), int placeOf(int), "
-            + "int proof(int,int,boolean), int reached(), int run(int,int,int), int seen(int), int sift(), "
-            + "int sweep(int), int table(int,int,int), int trace(int), int value(int,int), "
-            + "int witness(int,int,boolean), int word(int,int,int,int), long mergeProofs(), "
-            + "long signature(int)";
+    /** Each call with the exceptions that it declares, in their order. */
+    private static final String FACE = "boolean areSame(int) range, boolean correspond(int,int,boolean) index cannot, boolean "
+            + "isIdle(int) index cannot, boolean isInductive(int) range cannot, boolean isInvariant(int) "
+            + "index cannot, boolean isSound(), char prove(int,int,boolean,int) index range cannot, double "
+            + "meanSeen() cannot nothing, float mergedShare() nothing, int allDiagrams() cannot, int ands() "
+            + "cannot, int candidates(int) index cannot, int cell(int,int,int) range cannot full, int "
+            + "cellClasses() cannot, int close() cannot, int coefficient(int,int,int,int) range, int "
+            + "constrain(int) index cannot full, int cutAt(int,int,int,int) index range cannot none, int "
+            + "cuts(int,int) index range cannot, int data(int,int) index cannot, int diagram(int,int) index "
+            + "range cannot, int difference() cannot, int gate(int,char,int,int) range index cannot full, "
+            + "int input() cannot full, int lines(), int literal(int) index cannot, int merged(int) index, "
+            + "int normal(int,int) range, int order(int,int) cannot range, int output(int,int) range index "
+            + "cannot full, int patch(int,int,int,int,int) index range cannot none, int pattern(int) range "
+            + "cannot full, int patterns(), int pin(int,boolean) cannot none, int placeOf(int) cannot "
+            + "range, int proof(int,int,boolean) index cannot none, int reached() cannot, int "
+            + "run(int,int,int) range cannot, int seen(int) index cannot, int sift() cannot, int sweep(int) "
+            + "range cannot, int table(int,int,int) index range cannot none, int trace(int) cannot none, "
+            + "int value(int,int) index range cannot, int witness(int,int,boolean) index cannot none, int "
+            + "word(int,int,int,int) range, long mergeProofs(), long signature(int) index cannot";
+    private static final Map<Class<?>, String> REASONS = Map.of(IllegalArgumentException.class, "range",
+            IndexOutOfBoundsException.class, "index", UnsupportedOperationException.class, "cannot",
+            IllegalStateException.class, "full", NoSuchElementException.class, "none",
+            ArithmeticException.class, "nothing");
 
     private static int wrong;
 
@@ -58,7 +70,8 @@ public final class LanguageRules {
             if (Modifier.isPublic(m.getModifiers())) {
                 open.add(m.getName());
                 rows.add(m.getReturnType() + " " + m.getName() + "("
-                        + Arrays.stream(m.getParameterTypes()).map(Class::getName).collect(Collectors.joining(",")) + ")");
+                        + Arrays.stream(m.getParameterTypes()).map(Class::getName).collect(Collectors.joining(",")) + ")"
+                        + Arrays.stream(m.getExceptionTypes()).map(e -> " " + REASONS.get(e)).collect(Collectors.joining()));
             }
         }
         rows.sort(null);

@@ -1,5 +1,3 @@
-import java.lang.reflect.InvocationTargetException;
-import java.lang.reflect.Method;
 import java.util.ArrayList;
 import java.util.HashMap;
 import java.util.List;
@@ -11,19 +9,15 @@ import java.util.Random;
  * must be the same. Arguments: the first seed and the number of runs.
  */
 public final class RandomRuns {
-    private static final Map<String, Method> HOUSE = methodsOf(Miterhouse.class);
-    private static final Map<String, Method> PLAIN = methodsOf(PlainHouse.class);
-
     private final Random random;
-    private final Miterhouse house = new Miterhouse();
-    private final PlainHouse plain = new PlainHouse();
-    private final List<String> history = new ArrayList<>();
+    private final TwoHouses both = new TwoHouses();
+    private final Miterhouse house = both.house;
+    private final List<String> history = both.history;
     private final List<List<Integer>> ofNet = List.of(new ArrayList<>(), new ArrayList<>());
     private final List<Integer> cells = new ArrayList<>();
     private final Map<Integer, Integer> twins = new HashMap<>();
     private int sources;
     private int inputs;
-    private String wrong;
 
     private RandomRuns(long seed) {
         random = new Random(seed);
@@ -35,52 +29,17 @@ public final class RandomRuns {
         for (long s = seed; s < seed + runs; s++) {
             RandomRuns run = new RandomRuns(s);
             run.go();
-            if (run.wrong != null) {
-                System.out.println("seed " + s + ": " + run.wrong);
-                run.history.forEach(System.out::println);
+            if (run.both.isWrong()) {
+                run.both.tell("seed " + s);
                 System.exit(1);
             }
         }
         System.out.println(runs + " random runs answer as the plain house does");
     }
 
-    private static Map<String, Method> methodsOf(Class<?> owner) {
-        Map<String, Method> all = new HashMap<>();
-        for (Method m : owner.getDeclaredMethods()) {
-            if (java.lang.reflect.Modifier.isPublic(m.getModifiers())) {
-                all.put(m.getName(), m);
-            }
-        }
-        return all;
-    }
-
-    private static String answer(Method method, Object on, Object[] args) {
-        try {
-            return String.valueOf(method.invoke(on, args));
-        } catch (InvocationTargetException e) {
-            return e.getCause().getClass().getName();
-        } catch (IllegalAccessException e) {
-            throw new IllegalStateException(e);
-        }
-    }
-
     /** The number that both answer, -1 for an exception. */
     private int call(String name, Object... args) {
-        if (wrong != null) {
-            return -1;
-        }
-        String got = answer(HOUSE.get(name), house, args);
-        String due = answer(PLAIN.get(name), plain, args);
-        String row = name + java.util.Arrays.toString(args) + " = " + got;
-        history.add(row);
-        if (!got.equals(due)) {
-            wrong = row + ", due is " + due;
-        }
-        try {
-            return Integer.parseInt(got);
-        } catch (NumberFormatException e) {
-            return -1;
-        }
+        return both.call(name, args);
     }
 
     private void go() {
@@ -135,7 +94,7 @@ public final class RandomRuns {
         }
         call("close");
         int calls = 30 + random.nextInt(60);
-        for (int c = 0; c < calls && wrong == null; c++) {
+        for (int c = 0; c < calls && !both.isWrong(); c++) {
             ask();
         }
         call("isSound");
@@ -173,7 +132,7 @@ public final class RandomRuns {
         if (call("close") < 0) {
             return;
         }
-        for (int c = 0; c < 60 && wrong == null; c++) {
+        for (int c = 0; c < 60 && !both.isWrong(); c++) {
             if (random.nextInt(3) == 0) {
                 call("difference");
                 call("trace", random.nextInt(20));
@@ -420,11 +379,10 @@ public final class RandomRuns {
 
     /** Any call at any time, with arguments that need not fit. */
     private void wildCall() {
-        List<String> names = new ArrayList<>(HOUSE.keySet());
+        List<String> names = TwoHouses.names();
         names.remove("close");
-        java.util.Collections.sort(names);
         String name = names.get(random.nextInt(names.size()));
-        Class<?>[] kinds = HOUSE.get(name).getParameterTypes();
+        Class<?>[] kinds = TwoHouses.kindsOf(name);
         Object[] args = new Object[kinds.length];
         for (int k = 0; k < kinds.length; k++) {
             args[k] = kinds[k] == boolean.class ? (Object) random.nextBoolean()
