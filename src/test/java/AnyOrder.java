@@ -14,7 +14,7 @@ public final class AnyOrder {
     /** What each argument means: a letter for each, told at {@link #argument}. */
     private static final Map<String, String> MEANINGS = Map.ofEntries(
             Map.entry("cell", "nvm"), Map.entry("gate", "nkoo"), Map.entry("data", "ro"), Map.entry("output", "no"),
-            Map.entry("constrain", "l"), Map.entry("value", "lc"), Map.entry("literal", "l"), Map.entry("pin", "ab"),
+            Map.entry("constrain", "e"), Map.entry("value", "lc"), Map.entry("literal", "l"), Map.entry("pin", "ab"),
             Map.entry("pattern", "c"), Map.entry("signature", "l"), Map.entry("candidates", "l"),
             Map.entry("prove", "llbg"), Map.entry("proof", "llb"), Map.entry("witness", "llb"),
             Map.entry("sweep", "g"), Map.entry("merged", "l"), Map.entry("order", "ss"), Map.entry("placeOf", "s"),
@@ -24,17 +24,18 @@ public final class AnyOrder {
             Map.entry("correspond", "rrb"), Map.entry("trace", "x"), Map.entry("isInductive", "h"),
             Map.entry("isInvariant", "l"), Map.entry("run", "nhi"));
     /** Calls that PlainHouse takes long for, or that there is little to learn from, are asked less. */
-    private static final List<String> RARE = List.of("input", "cell", "close", "sweep", "sift", "constrain", "isSound");
+    private static final List<String> RARE = List.of("input", "cell", "close", "sweep", "sift", "isSound");
 
     private final Random random;
     private final TwoHouses both = new TwoHouses();
     private final List<String> names = TwoHouses.names();
     private final int mostSources;
     private final int mostLines;
+    private final boolean isConstrained;
+    private final List<Integer> inputLines = new ArrayList<>();
     private final List<Integer> cells = new ArrayList<>();
     private final List<List<Integer>> ofNet = List.of(new ArrayList<>(), new ArrayList<>());
     private final int[] outputs = new int[2];
-    private int inputs;
     private int sources;
     private int net;
     private boolean isClosed;
@@ -43,6 +44,7 @@ public final class AnyOrder {
         random = new Random(seed);
         mostSources = 1 + random.nextInt(5);
         mostLines = random.nextInt(6) == 0 ? 80 : 4 + random.nextInt(24);
+        isConstrained = random.nextBoolean();
     }
 
     public static void main(String[] args) {
@@ -75,7 +77,7 @@ public final class AnyOrder {
         String name = names.get(random.nextInt(names.size()));
         if (!isClosed && random.nextInt(3) > 0) {
             name = List.of("input", "cell", "gate", "gate", "gate", "gate", "data", "data", "output").get(random.nextInt(9));
-        } else if (RARE.contains(name) && random.nextInt(4) > 0) {
+        } else if ((RARE.contains(name) || name.equals("constrain") && !isConstrained) && random.nextInt(4) > 0) {
             return;
         }
         boolean isSource = name.equals("input") || name.equals("cell");
@@ -105,10 +107,12 @@ public final class AnyOrder {
 
     private void keep(String name, Object[] args, int got) {
         isClosed |= name.equals("close");
-        inputs += name.equals("input") ? 1 : 0;
         sources += name.equals("input") || name.equals("cell") ? 1 : 0;
         if (name.equals("cell")) {
             cells.add(got);
+        }
+        if (name.equals("input")) {
+            inputLines.add(got);
         }
         if (name.equals("output")) {
             outputs[(int) args[0]]++;
@@ -143,10 +147,11 @@ public final class AnyOrder {
             case 'l' -> random.nextInt(lines);
             case 'o' -> any(ofNet.get(net));
             case 'r' -> any(cells);
+            case 'e' -> any(inputLines);
             case 'p' -> random.nextInt(3) == 0 ? -1 : any(ofNet.get(net));
             case 'u' -> random.nextInt(1 + random.nextInt(4));
             case 'c' -> random.nextInt(1 << sources);
-            case 'i' -> random.nextInt(1 << inputs);
+            case 'i' -> random.nextInt(1 << inputLines.size());
             case 's' -> random.nextInt(Math.max(1, sources));
             case 'a' -> sources + 1 + random.nextInt(12);
             case 'g' -> 1 + random.nextInt(1 << random.nextInt(8));

@@ -438,6 +438,42 @@ final class NetEdges extends Edges {
         due(RANGE, answer(z, y -> y.run(0, 0, 0)));
         due(0, z.value(0, 0));
         due('e', z.prove(0, 8, false, 20000));
+        sentence("Promise 8: what was asked before is told anew, with each constraint up to the 4th");
+        for (int count = 1; count <= 4; count++) {
+            Miterhouse asked = narrowed();
+            Miterhouse spared = narrowed();
+            for (int line = 0; line < count; line++) {
+                askAll(asked);
+                asked.constrain(line);
+                spared.constrain(line);
+            }
+            due(Telling.of(spared), Telling.of(asked));
+        }
+    }
+
+    private static void askAll(Miterhouse x) {
+        x.meanSeen();
+        x.cellClasses();
+        x.reached();
+        x.trace(x.difference());
+        x.isInductive(2);
+        x.isSound();
+        answer(x, y -> y.patch(14, 13, 0, -1, -1));
+        for (int line = 0; line < x.lines(); line++) {
+            x.isInvariant(line);
+            x.prove(line, 0, false, 20000);
+            x.diagram(line, 9999);
+        }
+    }
+
+    /** Cells that take the inputs, so that each input that is always 1 changes classes, states and the trace. */
+    private static Miterhouse narrowed() {
+        Miterhouse x = Houses.wide();
+        for (int k = 0; k < 6; k++) {
+            x.data(6 + k, k);
+        }
+        x.data(13, x.gate(1, 'a', 13, 0));
+        return Houses.closed(x, 4, 5);
     }
 
     /** The small house with so many constraints, all the input 0. */

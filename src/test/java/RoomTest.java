@@ -70,6 +70,12 @@ public final class RoomTest {
         return Houses.closed(x, 0, 79);
     }
 
+    /** In the net 1 the line 2 should be the input 0. */
+    private static Miterhouse patched() {
+        Miterhouse x = Houses.inputs(2);
+        return Houses.closed(x, 0, x.gate(1, 'v', 1, 1));
+    }
+
     private static void heavy(Maker maker) {
         takes("sweep", maker, (x, k) -> x.sweep(20000 - k));
         takes("prove", maker, (x, k) -> x.prove(79, k % 80, k % 2 == 0, 20000));
@@ -81,11 +87,17 @@ public final class RoomTest {
         takes("constrain", maker, (x, k) -> k < 4 ? x.constrain(k % 2) + x.meanSeen() + x.reached() : x.cellClasses());
         takes("normal", maker, (x, k) -> x.normal(4, k * 163));
         takes("isSound", maker, (x, k) -> k % 10 == 0 ? x.isSound() : x.areSame(6));
-        takes("states", maker, (x, k) -> x.reached() + x.difference());
+        takes("states", maker, (x, k) -> x.reached() + x.trace(x.difference()));
+        takes("witness", maker, (x, k) -> x.witness(k % 80, k % 80, true) + x.proof(k % 80, k % 80, false));
+        takes("patterns", maker, (x, k) -> k < 64 ? x.pattern(k) : x.patterns() + x.merged(k % 80) + x.mergeProofs());
+        takes("seen", maker, (x, k) -> x.isIdle(k % 80) ? x.lines() : x.seen(k % 80) + x.mergedShare());
+        takes("words", maker, (x, k) -> x.coefficient(k % 2, k % 4, 3, k) + x.word(k % 2, 6, k, -k));
         takes("isInductive", maker, (x, k) -> k % 10 == 0 ? x.isInductive(20) : x.cellClasses());
         takes("isInvariant", maker, (x, k) -> x.isInvariant(k % 80));
         takes("run", maker, (x, k) -> x.run(k % 2, 30, 0));
-        takes("literal", maker, (x, k) -> x.literal(k % 80) + x.ands() + x.value(k % 80, 0));
+        takes("literal", maker, (x, k) -> x.literal(k % 80) + x.value(k % 80, 0) + x.pin(15 + k % 3, true));
+        takes("patch", RoomTest::patched, (x, k) -> x.patch(2, 0, k % 2 == 0 ? -1 : 1, -1, -1));
+        takes("correspond", Houses::largest, (x, k) -> x.correspond(6, 6 + k % 8, k % 2 == 0));
         takes("signature", maker, (x, k) -> x.signature(k % 80) + x.candidates(k % 80));
     }
 
