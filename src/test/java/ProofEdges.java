@@ -266,6 +266,7 @@ final class ProofEdges extends Edges {
             all = x.gate(0, 'a', all, line);
         }
         int late = x.gate(0, 'a', 6, x.gate(0, 'v', all, 0));
+        int last = x.gate(0, 'a', 9, x.gate(0, 'v', all, 0));
         Houses.closed(x);
         sentence("Promise 16: as many leaves as stand in front of a difference, and one less");
         due('u', x.prove(6, early, false, 64));
@@ -274,6 +275,9 @@ final class ProofEdges extends Edges {
         due('d', x.prove(late, 6, false, 127));
         due(1 + 64, x.witness(6, early, false));
         due(127, x.witness(6, late, false));
+        due('u', x.prove(9, last, false, 63 * 16));
+        due('d', x.prove(last, 9, false, 63 * 16 + 1));
+        due(63 + 512, x.witness(9, last, false));
     }
 
     private static void proofs() {
